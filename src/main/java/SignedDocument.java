@@ -410,7 +410,7 @@ public final class SignedDocument {
         int edit = log.size;
         log.perform(edit, present, proposal);
         int changed = proposal.clausesUnlike(present, clauseBook.size);
-        if (isRefused(changed)) {
+        if (noteRefusal(changed)) {
             throw new UnsupportedOperationException("the edit is refused");
         }
         present.copyFrom(proposal);
@@ -421,7 +421,8 @@ public final class SignedDocument {
         log.keepDraft(cost, fees);
     }
 
-    private boolean isRefused(int changed) {
+    /** Returns whether an edit that changes these clauses is refused, and if so records why. */
+    private boolean noteRefusal(int changed) {
         int clause = clauseBook.lowestLocked(changed);
         if (clause != NONE) {
             lastReason = BY_LOCK;
@@ -537,7 +538,7 @@ public final class SignedDocument {
 
         /** Appends what stands in the other text from start up to, but without, end. */
         void append(Passage other, int start, int end) {
-            for (int i = start; i < end; i++) {
+            for (int i = start; i < end && i < other.size; i++) {
                 appendOne(other.letters[i], other.authors[i], other.clauses[i]);
             }
         }
@@ -560,7 +561,7 @@ public final class SignedDocument {
         }
 
         boolean isFree(int position, int count) {
-            for (int i = position; i < position + count; i++) {
+            for (int i = position; i < position + count && i < size; i++) {
                 if (clauses[i] != NONE) {
                     return false;
                 }
@@ -569,7 +570,7 @@ public final class SignedDocument {
         }
 
         void mark(int position, int count, int clause) {
-            for (int i = position; i < position + count; i++) {
+            for (int i = position; i < position + count && i < size; i++) {
                 clauses[i] = clause;
             }
         }
@@ -578,7 +579,7 @@ public final class SignedDocument {
         void settle(int position, int count) {
             int end = position + count;
             int around = clauseAround(position, end);
-            for (int i = position; i < end; i++) {
+            for (int i = position; i < end && i < size; i++) {
                 if (clauses[i] == NONE || standsOutside(clauses[i], position, end)) {
                     clauses[i] = around;
                 }

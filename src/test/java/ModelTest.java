@@ -534,10 +534,13 @@ public final class ModelTest {
         int[] range = range(m);
         switch (name) {
             case "addAuthor": return new int[] {below(4), random.nextInt(2) == 0 ? below(1000) : below(10)};
-            case "type": return new int[] {random.nextInt(30) == 0 ? random.nextInt(300) : "aaab ".charAt(random.nextInt(5))};
+            case "type":
+                return new int[] {random.nextInt(30) == 0 ? random.nextInt(300) : "aaab ".charAt(random.nextInt(5))};
             case "insert": return new int[] {below(m.authors.size()), below(length + 1)};
             case "delete": return new int[] {below(m.authors.size()), range[0], range[1]};
-            case "move": return new int[] {below(m.authors.size()), range[0], range[1], below(Math.max(0, length - range[1]) + 1)};
+            case "move":
+                int goal = below(Math.max(0, length - range[1]) + 1);
+                return new int[] {below(m.authors.size()), range[0], range[1], goal};
             case "editKind": case "editAuthor": case "editCost": return new int[] {below(m.edits.size())};
             case "charAt": case "charAgain": case "authorOf": case "clauseOf": return new int[] {below(length)};
             case "outputAt": return new int[] {below(m.output.length())};
@@ -545,7 +548,8 @@ public final class ModelTest {
             case "writeClause": case "clauseLength": case "signers": return new int[] {below(m.locks.size())};
             case "lock": return new int[] {below(m.locks.size()), random.nextInt(3) == 0 ? 1 : 0};
             case "sign": return new int[] {below(m.authors.size()), below(1 << m.locks.size())};
-            case "withdraw": case "state": case "isUntouched": case "voidedBy": return new int[] {below(m.signatures.size())};
+            case "withdraw": case "state": case "isUntouched": case "voidedBy":
+                return new int[] {below(m.signatures.size())};
             case "setStrict": return new int[] {random.nextInt(3) == 0 ? 1 : 0};
             case "setFee": return new int[] {below(1000)};
             case "bill": case "billAgain": case "share": return new int[] {below(m.authors.size())};

@@ -27,7 +27,8 @@ public final class PromiseTest {
         for (StackTraceElement each : new Throwable().getStackTrace()) {
             if (place == null && isTest(each.getMethodName())) place = each;
         }
-        System.out.println((place == null ? "" : place.getMethodName() + ", line " + place.getLineNumber() + ": ") + what);
+        String where = place == null ? "" : place.getMethodName() + ", line " + place.getLineNumber() + ": ";
+        System.out.println(where + what);
     }
 
     private static boolean isTest(String method) {
@@ -840,6 +841,15 @@ public final class PromiseTest {
         due(plainAgain(d), "youhello to");
         for (int bad : new int[] {-1, 11, LEAST, GREATEST}) fails(d, INDEX, x -> x.charAgain(bad));
         due(plainAgain(withFortyEdits()), "abc");
+        Doc e = with("abc");
+        due(e.charAgain(0), 'a');
+        e.delete(0, 0, 1);
+        due(e.charAgain(0), 'b');
+        fails(e, INDEX, x -> x.charAgain(2));
+        e.move(0, 0, 1, 1);
+        due(e.charAgain(0), 'c');
+        e.addClause(0, 1);
+        due(e.charAgain(1), 'b');
     }
 
     private static void promise19() {
@@ -889,6 +899,11 @@ public final class PromiseTest {
         }
         due(text(d), "[0:a][1:b][2:c][3:d][4:e][5:ff][4:e][3:d][2:c][1:b][0:a]");
         due(d.isConsistent(), true);
+        put(d, 0, 6, "x".repeat(20));
+        put(d, 0, 6, "y".repeat(20));
+        put(d, 0, 2, "bbbbbbbb");
+        due(text(d), "[0:a][1:b]bbbbbbbb[2:c][3:d][4:e][5:f" + "y".repeat(20) + "x".repeat(20)
+            + "f][4:e][3:d][2:c][1:b][0:a]");
     }
 
     private static void promise20() {
@@ -1040,6 +1055,8 @@ public final class PromiseTest {
         d.addAuthor(0, 0);
         for (int i = 0; i < 3; i++) due(d.signers(i), 0);
         d.sign(4, 1);
+        due(d.signers(0), 16);
+        due(d.signers(1), 0);
         d.sign(1, 3);
         d.sign(4, 5);
         due(d.signers(0), 18);
@@ -1393,6 +1410,43 @@ public final class PromiseTest {
         d.type('x');
         fails(d, STATE, x -> x.insert(0, 9));
         due(refusal(d), "l1");
+    }
+
+    /** As many authors, characters, clauses, signatures and edits as there may be. */
+    private static void termsFullDocument() {
+        Doc d = new Doc();
+        for (int i = 0; i < 5; i++) d.addAuthor(1, i + 1);
+        for (int i = 0; i < 3; i++) put(d, i, 0, "a".repeat(20));
+        for (int i = 0; i < 6; i++) due(d.addClause(10 * i, 10), i);
+        for (int i = 0; i < 12; i++) due(d.sign(i % 5, i < 11 ? 1 << i % 6 : 63), i);
+        d.setStrict(true);
+        for (int i = 3; i < 39; i++) d.move(3, 0, 10, 50);
+        due(d.setStrict(false), true);
+        for (int i = 0; i < 12; i++) due(d.state(i), 'v');
+        due(d.signers(4), 1 << 4 | 1 << 0 | 1 << 1);
+        due(d.signers(5), 1 << 0 | 1 << 1);
+        d.setFee(999);
+        due(d.delete(4, 50, 10), 50);
+        due(d.edits(), 40);
+        due(d.clauseLength(5), 0);
+        due(d.editCost(39), 5 + 2 * 999);
+        dueD(d.meanCost(), (1 + 2 + 3 + 36 * 4 + 5 + 2 * 999) / 40.0);
+        due(d.signers(5), 0);
+        due(d.signers(4), 1 << 4 | 1 << 0);
+        for (int i = 0; i < 12; i++) {
+            boolean isOver = i == 5 || i == 11;
+            due(d.isUntouched(i), !isOver);
+            due(d.state(i), isOver ? 'x' : 'v');
+        }
+        due(d.withdraw(10), 9);
+        due(d.voidedBy(11), 39);
+        due(d.billAgain(4), 5 + 2 * 999);
+        due(d.bill(3), 36 * 4);
+        dueD(d.share(0), 10f / 50f);
+        dueD(d.share(2), 20f / 50f);
+        due(d.lengthAgain(), 50);
+        due(d.writeText(), 50 + 5 * 4);
+        due(d.isConsistent(), true);
     }
 
     public static void main(String[] args) throws ReflectiveOperationException {
