@@ -2,51 +2,51 @@ import java.lang.reflect.Array;
 import java.lang.reflect.Field;
 
 /**
- * Promise 39 from the other side: no call brings an object out of its invariants, so this test
- * spoils what the object keeps, field by field, and isConsistent must say so. It knows the names
- * of the private fields, and has to be changed with them.
+ * Promise 39. No call brings an object out of its invariants, so the tests of the answer false spoil what the object
+ * keeps, field by field, by reflection. They know the names of the private fields, and have to be changed with them.
  */
-public final class ConsistencyTest {
-    private static int wrong = 0;
+public final class ConsistencyTest extends Checks {
+    private static final String INVARIANTS = "Checks the invariants: the text that comes from doing all edits again is "
+        + "the same, with the same authors and clauses; a signature that is valid is untouched, and one that is void "
+        + "is not; and for each author, both bills agree.";
 
-    private static Object field(Object of, String name) throws ReflectiveOperationException {
-        Field field = of.getClass().getDeclaredField(name);
-        field.setAccessible(true);
-        return field.get(of);
-    }
-
-    private static void due(boolean got, boolean want, String what) {
-        if (got != want) {
-            wrong++;
-            System.out.println(what + ": answered " + got + ", due is " + want);
+    private static Object part(Object of, String name) {
+        try {
+            Field field = of.getClass().getDeclaredField(name);
+            field.setAccessible(true);
+            return field.get(of);
+        } catch (ReflectiveOperationException e) {
+            throw new AssertionError(e);
         }
     }
 
     /** Puts another value into a row, asks, and puts the old one back. */
-    private static void spoil(SignedDocument d, String part, String row, int index, Object value, boolean want)
-            throws ReflectiveOperationException {
-        Object array = field(field(d, part), row);
+    private static void spoil(SignedDocument d, String part, String row, int index, Object value, boolean want) {
+        Object array = part(part(d, part), row);
         Object old = Array.get(array, index);
-        String what = part + "." + row + "[" + index + "] = " + value;
-        due(!old.equals(value), true, what + " is another value");
+        due(!old.equals(value), true);
         Array.set(array, index, value);
-        due(d.isConsistent(), want, what);
+        due(d.isConsistent(), want);
         Array.set(array, index, old);
-        due(d.isConsistent(), true, what + " put back");
+        due(d.isConsistent(), true);
     }
 
-    private static void spoilSize(SignedDocument d, int size) throws ReflectiveOperationException {
-        Object text = field(d, "present");
-        Field field = text.getClass().getDeclaredField("size");
-        field.setAccessible(true);
-        int old = field.getInt(text);
-        field.setInt(text, size);
-        due(d.isConsistent(), false, "present.size = " + size);
-        field.setInt(text, old);
-        due(d.isConsistent(), true, "present.size put back");
+    private static void spoilLength(SignedDocument d, int length) {
+        Object text = part(d, "present");
+        try {
+            Field field = text.getClass().getDeclaredField("size");
+            field.setAccessible(true);
+            int old = field.getInt(text);
+            field.setInt(text, length);
+            due(d.isConsistent(), false);
+            field.setInt(text, old);
+            due(d.isConsistent(), true);
+        } catch (ReflectiveOperationException e) {
+            throw new AssertionError(e);
+        }
     }
 
-    /** "[0:ab]cd[1:ef]" by two authors; signature 0 is valid, 1 is void, 2 and 3 are withdrawn. */
+    /** "[0:ab]cd[1:ef]" by two authors; signature 0 is valid, 1 is void, 2 and 3 are withdrawn, 2 was touched. */
     private static SignedDocument made() {
         SignedDocument d = new SignedDocument();
         d.addAuthor(0, 3);
@@ -65,34 +65,96 @@ public final class ConsistencyTest {
         d.withdraw(3);
         d.setFee(9);
         d.delete(1, 6, 1);
+        due(d.isConsistent(), true);
         return d;
     }
 
-    public static void main(String[] args) throws ReflectiveOperationException {
+    @Sentence(of = "Promise 39", says = INVARIANTS)
+    static void anotherTextIsNotConsistent() {
         SignedDocument d = made();
-        due(d.isConsistent(), true, "as it was made");
-        for (int i : new int[] {0, 3, 5}) {
-            spoil(d, "present", "letters", i, 'q', false);
-            spoil(d, "present", "authors", i, 1, false);
-        }
+        for (int i : new int[] {0, 3, 5}) spoil(d, "present", "letters", i, 'q', false);
+    }
+
+    @Sentence(of = "Promise 39", says = INVARIANTS)
+    static void aTextOfAnotherLengthIsNotConsistent() {
+        SignedDocument d = made();
+        for (int length : new int[] {0, 5, 7}) spoilLength(d, length);
+    }
+
+    @Sentence(of = "Promise 39", says = INVARIANTS)
+    static void otherAuthorsAreNotConsistent() {
+        SignedDocument d = made();
+        for (int i : new int[] {0, 3, 5}) spoil(d, "present", "authors", i, 1, false);
+    }
+
+    @Sentence(of = "Promise 39", says = INVARIANTS)
+    static void otherClausesAreNotConsistent() {
+        SignedDocument d = made();
         spoil(d, "present", "clauses", 0, 1, false);
         spoil(d, "present", "clauses", 0, -1, false);
         spoil(d, "present", "clauses", 2, 0, false);
         spoil(d, "present", "clauses", 5, 0, false);
-        spoilSize(d, 5);
-        spoilSize(d, 7);
-        spoilSize(d, 0);
-        spoil(d, "authorBook", "bills", 0, 19L, false);
-        spoil(d, "authorBook", "bills", 1, 0L, false);
-        spoil(d, "signatureBook", "states", 0, 'x', false);
+    }
+
+    @Sentence(of = "Promise 39", says = INVARIANTS)
+    static void aValidSignatureThatWasTouchedIsNotConsistent() {
+        SignedDocument d = made();
         spoil(d, "signatureBook", "states", 1, 'v', false);
-        spoil(d, "signatureBook", "states", 0, 'w', true);
-        spoil(d, "signatureBook", "states", 1, 'w', true);
-        spoil(d, "signatureBook", "states", 2, 'x', true);
         spoil(d, "signatureBook", "states", 2, 'v', false);
         spoil(d, "signatureBook", "states", 3, 'v', true);
+    }
+
+    @Sentence(of = "Promise 39", says = INVARIANTS)
+    static void aVoidSignatureThatIsUntouchedIsNotConsistent() {
+        SignedDocument d = made();
+        spoil(d, "signatureBook", "states", 0, 'x', false);
         spoil(d, "signatureBook", "states", 3, 'x', false);
-        System.out.println(wrong == 0 ? "all answers are as due" : wrong + " answers are not as due");
-        if (wrong != 0) System.exit(1);
+        spoil(d, "signatureBook", "states", 2, 'x', true);
+    }
+
+    @Sentence(of = "Promise 39", says = INVARIANTS)
+    static void aWithdrawnSignatureIsConsistentTouchedOrNot() {
+        SignedDocument d = made();
+        spoil(d, "signatureBook", "states", 0, 'w', true);
+        spoil(d, "signatureBook", "states", 1, 'w', true);
+    }
+
+    @Sentence(of = "Promise 39", says = INVARIANTS)
+    static void billsThatDoNotAgreeAreNotConsistent() {
+        SignedDocument d = made();
+        spoil(d, "authorBook", "bills", 0, 19L, false);
+        spoil(d, "authorBook", "bills", 1, 0L, false);
+    }
+
+    @Sentence(of = "Promise 39", says = "Returns true if the invariants hold.")
+    static void aNewAndAnEmptiedDocumentAreConsistent() {
+        due(new Doc().isConsistent(), true);
+        Doc d = withThreeClauses();
+        for (int i = 0; i < 3; i++) d.sign(0, 1 << i);
+        d.delete(0, 0, 11);
+        due(d.isConsistent(), true);
+    }
+
+    @Sentence(of = "Promise 39", says = "Returns true if the invariants hold.")
+    static void aDocumentWithAllLimitsReachedIsConsistent() {
+        due(withAllLimitsReached().isConsistent(), true);
+        due(withFortyEdits().isConsistent(), true);
+    }
+
+    @Sentence(of = "Promise 39", says = "Returns true if the invariants hold.")
+    static void aDocumentIsConsistentAfterRefusals() {
+        Doc d = withEverything();
+        due(d.isConsistent(), true);
+        throwsNow(d, REFUSED, x -> x.insert(0, 3));
+        throwsNow(d, REFUSED, x -> x.move(0, 8, 1, 0));
+        due(d.isConsistent(), true);
+        d.setStrict(false);
+        d.lock(1, false);
+        d.delete(0, 0, 10);
+        due(d.isConsistent(), true);
+    }
+
+    public static void main(String[] args) {
+        run(ConsistencyTest.class);
     }
 }

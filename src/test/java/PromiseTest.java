@@ -1,336 +1,6 @@
-import java.lang.reflect.Method;
-import java.util.ArrayList;
-import java.util.Arrays;
-import java.util.Comparator;
-import java.util.List;
-import java.util.NoSuchElementException;
-import java.util.function.Consumer;
-
 /** For each promise: ordinary inputs, the edges that the document names, and wrong inputs. */
-public final class PromiseTest {
-    private static final int LEAST = Integer.MIN_VALUE;
-    private static final int GREATEST = Integer.MAX_VALUE;
-    private static final Class<?> INDEX = IndexOutOfBoundsException.class;
-    private static final Class<?> ARGUMENT = IllegalArgumentException.class;
-    private static final Class<?> STATE = IllegalStateException.class;
-    private static final Class<?> REFUSED = UnsupportedOperationException.class;
-    private static final Class<?> NOTHING = NoSuchElementException.class;
-    private static final Class<?> ARITHMETIC = ArithmeticException.class;
-
-    private static int checks = 0;
-    private static int wrong = 0;
-
-    /** Tells the test's own line. */
-    private static void fault(String what) {
-        wrong++;
-        StackTraceElement place = null;
-        for (StackTraceElement each : new Throwable().getStackTrace()) {
-            if (place == null && isTest(each.getMethodName())) place = each;
-        }
-        String where = place == null ? "" : place.getMethodName() + ", line " + place.getLineNumber() + ": ";
-        System.out.println(where + what);
-    }
-
-    private static boolean isTest(String method) {
-        return method.startsWith("promise") || method.startsWith("terms");
-    }
-
-    private static void due(long got, long want) {
-        checks++;
-        if (got != want) fault("answered " + got + ", due is " + want);
-    }
-
-    private static void due(boolean got, boolean want) {
-        checks++;
-        if (got != want) fault("answered " + got + ", due is " + want);
-    }
-
-    private static void due(String got, String want) {
-        checks++;
-        if (!got.equals(want)) fault("answered \"" + got + "\", due is \"" + want + "\"");
-    }
-
-    private static void dueD(double got, double want) {
-        checks++;
-        if (got != want) fault("answered " + got + ", due is " + want);
-    }
-
-    /** A document whose calls are counted, and told again to a new one wherever a look at the whole needs it. */
-    private static final class Doc {
-        private final SignedDocument d = new SignedDocument();
-        private final List<Consumer<Doc>> past = new ArrayList<>();
-        private int calls = 0;
-
-        /** The document promises nothing for later calls than the 512th. */
-        private SignedDocument count() {
-            calls++;
-            if (calls == 513) fault("the test makes too many calls");
-            return d;
-        }
-
-        /** Only what was answered is told again. */
-        private <T> T keep(T answer, Consumer<Doc> call) {
-            past.add(call);
-            return answer;
-        }
-
-        Doc again() {
-            Doc other = new Doc();
-            for (Consumer<Doc> each : past) each.accept(other);
-            return other;
-        }
-
-        int addAuthor(int scheme, int rate) {
-            return keep(count().addAuthor(scheme, rate), x -> x.addAuthor(scheme, rate));
-        }
-
-        int type(char character) {
-            return keep(count().type(character), x -> x.type(character));
-        }
-
-        int insert(int author, int position) {
-            return keep(count().insert(author, position), x -> x.insert(author, position));
-        }
-
-        int delete(int author, int position, int count) {
-            return keep(count().delete(author, position, count), x -> x.delete(author, position, count));
-        }
-
-        int move(int author, int position, int count, int goal) {
-            return keep(count().move(author, position, count, goal), x -> x.move(author, position, count, goal));
-        }
-
-        int edits() { return count().edits(); }
-
-        char editKind(int edit) { return count().editKind(edit); }
-
-        int editAuthor(int edit) { return count().editAuthor(edit); }
-
-        int editCost(int edit) { return count().editCost(edit); }
-
-        char refusalReason() { return count().refusalReason(); }
-
-        int refusalSubject() { return count().refusalSubject(); }
-
-        int length() { return count().length(); }
-
-        char charAt(int position) { return count().charAt(position); }
-
-        int authorOf(int position) { return count().authorOf(position); }
-
-        int clauseOf(int position) { return count().clauseOf(position); }
-
-        int lengthAgain() { return count().lengthAgain(); }
-
-        char charAgain(int position) { return count().charAgain(position); }
-
-        int writeText() { return keep(count().writeText(), x -> x.writeText()); }
-
-        int writeClause(int clause) { return keep(count().writeClause(clause), x -> x.writeClause(clause)); }
-
-        char outputAt(int index) { return count().outputAt(index); }
-
-        int addClause(int position, int count) {
-            return keep(count().addClause(position, count), x -> x.addClause(position, count));
-        }
-
-        int clauses() { return count().clauses(); }
-
-        int clauseLength(int clause) { return count().clauseLength(clause); }
-
-        boolean lock(int clause, boolean isLocked) {
-            return keep(count().lock(clause, isLocked), x -> x.lock(clause, isLocked));
-        }
-
-        int signers(int clause) { return count().signers(clause); }
-
-        int sign(int author, int clauses) { return keep(count().sign(author, clauses), x -> x.sign(author, clauses)); }
-
-        int withdraw(int signature) { return keep(count().withdraw(signature), x -> x.withdraw(signature)); }
-
-        int signatures() { return count().signatures(); }
-
-        char state(int signature) { return count().state(signature); }
-
-        boolean isUntouched(int signature) { return count().isUntouched(signature); }
-
-        int voidedBy(int signature) { return count().voidedBy(signature); }
-
-        boolean setStrict(boolean isStrict) { return keep(count().setStrict(isStrict), x -> x.setStrict(isStrict)); }
-
-        int setFee(int cents) { return keep(count().setFee(cents), x -> x.setFee(cents)); }
-
-        long bill(int author) { return count().bill(author); }
-
-        long billAgain(int author) { return count().billAgain(author); }
-
-        float share(int author) { return count().share(author); }
-
-        double meanCost() { return count().meanCost(); }
-
-        boolean isConsistent() { return count().isConsistent(); }
-    }
-
-    private static Class<?> thrownBy(Doc d, Consumer<Doc> call) {
-        try {
-            call.accept(d);
-        } catch (Throwable e) {
-            return e.getClass();
-        }
-        return null;
-    }
-
-    /** The call throws this exception and changes nothing that can be seen. */
-    private static void fails(Doc d, Class<?> kind, Consumer<Doc> call) {
-        checks++;
-        Doc other = d.again();
-        Class<?> thrown = thrownBy(other, call);
-        if (thrown != kind) fault("threw " + thrown + ", due is " + kind);
-        due(whole(other), whole(d.again()));
-    }
-
-    /** The call is refused for this reason and changes nothing else. */
-    private static void refused(Doc d, char reason, int subject, Consumer<Doc> call) {
-        checks++;
-        String before = whole(d.again());
-        d.past.add(x -> thrownBy(x, call));
-        Class<?> thrown = thrownBy(d, call);
-        if (thrown != REFUSED) fault("threw " + thrown + ", due is " + REFUSED);
-        String after = whole(d.again());
-        due(after.substring(after.indexOf('|')), before.substring(before.indexOf('|')));
-        due(refusal(d), reason + "" + subject);
-    }
-
-    private static String refusal(Doc d) {
-        try {
-            return d.refusalReason() + "" + d.refusalSubject();
-        } catch (NoSuchElementException e) {
-            return "none";
-        }
-    }
-
-    /** All that can be seen of a document, the refusal first. */
-    private static String whole(Doc d) {
-        StringBuilder text = new StringBuilder(refusal(d)).append('|').append(line(d)).append('|');
-        int length = d.length();
-        for (int i = 0; i < length; i++) {
-            text.append(' ').append(d.charAt(i)).append(d.authorOf(i)).append('/').append(d.clauseOf(i));
-        }
-        text.append('|').append(d.lengthAgain()).append('|');
-        int edits = d.edits();
-        for (int i = 0; i < edits; i++) {
-            text.append(d.editKind(i)).append(d.editAuthor(i)).append('=').append(d.editCost(i)).append(' ');
-        }
-        wholeOfClauses(d, text.append('|'));
-        wholeOfAuthors(d, text.append('|'));
-        return text.append(d.setStrict(true)).append(d.setFee(0)).append(buffer(d)).toString();
-    }
-
-    private static void wholeOfClauses(Doc d, StringBuilder text) {
-        int clauses = d.clauses();
-        for (int i = 0; i < clauses; i++) {
-            text.append(d.clauseLength(i)).append('-').append(d.signers(i)).append(d.lock(i, false)).append(' ');
-        }
-        int signatures = d.signatures();
-        for (int i = 0; i < signatures; i++) {
-            char state = d.state(i);
-            text.append(state).append(d.isUntouched(i)).append(state == 'x' ? d.voidedBy(i) : -1).append(' ');
-        }
-    }
-
-    private static void wholeOfAuthors(Doc d, StringBuilder text) {
-        for (int i = 0; i < 5; i++) {
-            try {
-                text.append(d.bill(i)).append('=').append(d.billAgain(i)).append(' ');
-            } catch (IndexOutOfBoundsException e) {
-                text.append("none ");
-            }
-        }
-        text.append(d.isConsistent());
-    }
-
-    /** How many characters the buffer takes until it is full. */
-    private static int buffer(Doc d) {
-        int count = 0;
-        while (count <= 20 && thrownBy(d, x -> x.type('a')) == null) count++;
-        return count;
-    }
-
-    private static String plain(Doc d) {
-        StringBuilder text = new StringBuilder();
-        int length = d.length();
-        for (int i = 0; i < length; i++) text.append(d.charAt(i));
-        return text.toString();
-    }
-
-    private static String plainAgain(Doc d) {
-        StringBuilder text = new StringBuilder();
-        int length = d.lengthAgain();
-        for (int i = 0; i < length; i++) text.append(d.charAgain(i));
-        return text.toString();
-    }
-
-    /** The output line, read until it ends. */
-    private static String line(Doc d) {
-        StringBuilder text = new StringBuilder();
-        for (int i = 0; i <= 300; i++) {
-            try {
-                text.append(d.outputAt(i));
-            } catch (IndexOutOfBoundsException e) {
-                return text.toString();
-            }
-        }
-        return "endless";
-    }
-
-    private static String text(Doc d) {
-        int count = d.writeText();
-        String line = line(d);
-        due(count, line.length());
-        return line;
-    }
-
-    private static String words(Doc d, int clause) {
-        int count = d.writeClause(clause);
-        String line = line(d);
-        due(count, line.length());
-        return line;
-    }
-
-    private static void typeAll(Doc d, String characters) {
-        for (int i = 0; i < characters.length(); i++) d.type(characters.charAt(i));
-    }
-
-    private static int put(Doc d, int author, int position, String characters) {
-        typeAll(d, characters);
-        return d.insert(author, position);
-    }
-
-    /** A document with one author, who pays 1 cent for each character, and this text. */
-    private static Doc with(String characters) {
-        Doc d = new Doc();
-        d.addAuthor(0, 1);
-        put(d, 0, 0, characters);
-        return d;
-    }
-
-    /** "[0:aaa][1:bbb]cc[2:ddd]" with two authors. */
-    private static Doc withThreeClauses() {
-        Doc d = with("aaabbbccddd");
-        d.addAuthor(1, 5);
-        d.addClause(0, 3);
-        d.addClause(3, 3);
-        d.addClause(8, 3);
-        return d;
-    }
-
-    private static Doc withFortyEdits() {
-        Doc d = with("abc");
-        for (int i = 1; i < 40; i++) due(d.move(0, 0, 1, 2), i);
-        return d;
-    }
-
-    private static void promise1() {
+public final class PromiseTest extends Checks {
+    static void promise1() {
         Doc d = new Doc();
         due(d.length(), 0);
         due(d.lengthAgain(), 0);
@@ -352,7 +22,7 @@ public final class PromiseTest {
         due(other.setFee(0), 0);
     }
 
-    private static void promise2() {
+    static void promise2() {
         Doc d = new Doc();
         fails(d, ARGUMENT, x -> x.addAuthor(-1, 0));
         fails(d, ARGUMENT, x -> x.addAuthor(4, 0));
@@ -369,7 +39,7 @@ public final class PromiseTest {
         fails(d, INDEX, x -> x.bill(5));
     }
 
-    private static void promise3() {
+    static void promise3() {
         Doc d = new Doc();
         d.addAuthor(0, 1);
         char[] bad = {'a' - 1, 'z' + 1, 'A', 'Z', '0', 31, 33, 0, '\t', '\n', 160, 228, 65535};
@@ -390,7 +60,7 @@ public final class PromiseTest {
         }
     }
 
-    private static void promise4() {
+    static void promise4() {
         Doc d = new Doc();
         d.type('h');
         fails(d, INDEX, x -> x.insert(0, 0));
@@ -417,7 +87,7 @@ public final class PromiseTest {
         due(d.authorOf(8), 1);
     }
 
-    private static void promise4Limits() {
+    static void promise4Limits() {
         Doc d = with("a".repeat(20));
         put(d, 0, 20, "b".repeat(20));
         put(d, 0, 40, "c".repeat(20));
@@ -441,7 +111,7 @@ public final class PromiseTest {
         due(full.type('y'), 2);
     }
 
-    private static void promise4Clauses() {
+    static void promise4Clauses() {
         Doc d = with("abcdef");
         d.addClause(0, 2);
         d.addClause(2, 2);
@@ -459,7 +129,7 @@ public final class PromiseTest {
         due(text(d), "pv[0:astb]r[1:cd]ue[2:f]q");
     }
 
-    private static void promise4Refusals() {
+    static void promise4Refusals() {
         Doc d = withThreeClauses();
         d.lock(1, true);
         typeAll(d, "xy");
@@ -480,7 +150,7 @@ public final class PromiseTest {
         fails(empty, ARGUMENT, x -> x.insert(0, 1));
     }
 
-    private static void promise5() {
+    static void promise5() {
         Doc d = with("abcdefgh");
         fails(d, INDEX, x -> x.delete(1, 0, 1));
         fails(d, INDEX, x -> x.delete(-1, 0, 1));
@@ -511,7 +181,7 @@ public final class PromiseTest {
         fails(full, INDEX, x -> x.delete(1, 0, 1));
     }
 
-    private static void promise5Refusals() {
+    static void promise5Refusals() {
         Doc d = withThreeClauses();
         d.lock(2, true);
         d.lock(1, true);
@@ -526,7 +196,7 @@ public final class PromiseTest {
         due(text(d), "[1:bbb][2:ddd]");
     }
 
-    private static void promise6() {
+    static void promise6() {
         Doc d = with("abcdefgh");
         fails(d, INDEX, x -> x.move(1, 0, 1, 0));
         fails(d, INDEX, x -> x.move(-1, 0, 1, 0));
@@ -565,7 +235,7 @@ public final class PromiseTest {
         fails(full, INDEX, x -> x.move(1, 0, 1, 0));
     }
 
-    private static void promise6WholeClauses() {
+    static void promise6WholeClauses() {
         Doc d = withThreeClauses();
         d.move(0, 3, 3, 0);
         due(text(d), "[1:bbb][0:aaa]cc[2:ddd]");
@@ -579,7 +249,7 @@ public final class PromiseTest {
         due(text(d), "[0:bbaa]cc[1:b]a[2:ddd]");
     }
 
-    private static void promise6PartsOfClauses() {
+    static void promise6PartsOfClauses() {
         Doc d = withThreeClauses();
         d.move(0, 1, 1, 0);
         due(text(d), "a[0:aa][1:bbb]cc[2:ddd]");
@@ -600,7 +270,7 @@ public final class PromiseTest {
     }
 
     /** Text and goal are those without the moved characters, also when the clause has gaps. */
-    private static void promise6Gaps() {
+    static void promise6Gaps() {
         Doc d = with("abcd");
         d.addClause(0, 4);
         put(d, 0, 4, "xy");
@@ -624,7 +294,7 @@ public final class PromiseTest {
         due(text(d), "[0:ab][1:x][0:cd]y");
     }
 
-    private static void promise6Refusals() {
+    static void promise6Refusals() {
         Doc d = withThreeClauses();
         d.lock(0, true);
         refused(d, 'l', 0, x -> x.move(0, 0, 1, 5));
@@ -640,7 +310,7 @@ public final class PromiseTest {
         due(text(d), "cc[2:ddd][0:aaa][1:bbb]");
     }
 
-    private static void promise7() {
+    static void promise7() {
         Doc d = withThreeClauses();
         due(d.edits(), 1);
         d.addClause(6, 2);
@@ -658,7 +328,7 @@ public final class PromiseTest {
         due(withFortyEdits().edits(), 40);
     }
 
-    private static void promise8To10() {
+    static void promise8To10() {
         Doc d = with("abcdef");
         d.addAuthor(1, 9);
         fails(d, INDEX, x -> x.editKind(1));
@@ -691,7 +361,7 @@ public final class PromiseTest {
         fails(full, INDEX, x -> x.editCost(40));
     }
 
-    private static void promise10Schemes() {
+    static void promise10Schemes() {
         Doc d = new Doc();
         d.addAuthor(0, 13);
         d.addAuthor(1, 17);
@@ -728,7 +398,7 @@ public final class PromiseTest {
         due(d.isConsistent(), true);
     }
 
-    private static void promise10Fees() {
+    static void promise10Fees() {
         Doc d = withThreeClauses();
         d.sign(0, 1);
         d.sign(1, 3);
@@ -747,7 +417,7 @@ public final class PromiseTest {
         due(d.bill(1), 40);
     }
 
-    private static void promise11And12() {
+    static void promise11And12() {
         Doc d = withThreeClauses();
         fails(d, NOTHING, x -> x.refusalReason());
         fails(d, NOTHING, x -> x.refusalSubject());
@@ -777,7 +447,7 @@ public final class PromiseTest {
         due(refusal(d), "s0");
     }
 
-    private static void promise13() {
+    static void promise13() {
         Doc d = with("abc");
         due(d.length(), 3);
         put(d, 0, 1, "xy");
@@ -792,7 +462,7 @@ public final class PromiseTest {
         due(d.length(), 0);
     }
 
-    private static void promise14To16() {
+    static void promise14To16() {
         Doc d = with("abcd");
         d.addAuthor(0, 0);
         put(d, 1, 2, "xy");
@@ -822,7 +492,7 @@ public final class PromiseTest {
         fails(d, INDEX, x -> x.clauseOf(5));
     }
 
-    private static void promise17And18() {
+    static void promise17And18() {
         Doc d = new Doc();
         due(d.lengthAgain(), 0);
         fails(d, INDEX, x -> x.charAgain(0));
@@ -852,7 +522,7 @@ public final class PromiseTest {
         due(e.charAgain(1), 'b');
     }
 
-    private static void promise19() {
+    static void promise19() {
         Doc d = with("xy abcd");
         due(text(d), "xy abcd");
         d.addClause(3, 3);
@@ -873,7 +543,7 @@ public final class PromiseTest {
     }
 
     /** The document's own example. */
-    private static void promise19Example() {
+    static void promise19Example() {
         Doc d = with("xy abd");
         d.addClause(3, 3);
         put(d, 0, 6, "cx");
@@ -888,7 +558,7 @@ public final class PromiseTest {
         due(d.isConsistent(), true);
     }
 
-    private static void promise19Nested() {
+    static void promise19Nested() {
         Doc d = with("aa");
         d.addClause(0, 2);
         for (int i = 1; i < 6; i++) {
@@ -906,7 +576,7 @@ public final class PromiseTest {
             + "f][4:e][3:d][2:c][1:b][0:a]");
     }
 
-    private static void promise20() {
+    static void promise20() {
         Doc d = withThreeClauses();
         due(words(d, 0), "aaa");
         due(words(d, 2), "ddd");
@@ -927,7 +597,7 @@ public final class PromiseTest {
         due(words(d, 2), "ddd");
     }
 
-    private static void promise21() {
+    static void promise21() {
         Doc d = withThreeClauses();
         for (int bad : new int[] {-1, 0, 1, LEAST, GREATEST}) fails(d, INDEX, x -> x.outputAt(bad));
         d.writeText();
@@ -946,7 +616,7 @@ public final class PromiseTest {
         fails(d, INDEX, x -> x.outputAt(0));
     }
 
-    private static void promise22() {
+    static void promise22() {
         Doc d = new Doc();
         fails(d, INDEX, x -> x.addClause(0, 0));
         fails(d, INDEX, x -> x.addClause(0, 1));
@@ -979,7 +649,7 @@ public final class PromiseTest {
         due(d.isConsistent(), true);
     }
 
-    private static void promise22WholeText() {
+    static void promise22WholeText() {
         Doc d = with("abc");
         due(d.addClause(0, 3), 0);
         due(d.clauseLength(0), 3);
@@ -992,7 +662,7 @@ public final class PromiseTest {
         due(d.isConsistent(), true);
     }
 
-    private static void promise23And24() {
+    static void promise23And24() {
         Doc d = with("aaabbbccddd");
         due(d.clauses(), 0);
         d.addClause(0, 3);
@@ -1014,7 +684,7 @@ public final class PromiseTest {
         for (int bad : new int[] {-1, 2, LEAST, GREATEST}) fails(d, INDEX, x -> x.clauseLength(bad));
     }
 
-    private static void promise25() {
+    static void promise25() {
         Doc d = withThreeClauses();
         for (int bad : new int[] {-1, 3, LEAST, GREATEST}) {
             fails(d, INDEX, x -> x.lock(bad, true));
@@ -1034,7 +704,7 @@ public final class PromiseTest {
     }
 
     /** Only changed words matter to a lock, letter by letter. */
-    private static void promise25SameWords() {
+    static void promise25SameWords() {
         Doc d = withThreeClauses();
         d.lock(0, true);
         due(d.move(0, 0, 1, 1), 1);
@@ -1048,7 +718,7 @@ public final class PromiseTest {
         due(words(e, 0), "xababy");
     }
 
-    private static void promise26() {
+    static void promise26() {
         Doc d = withThreeClauses();
         d.addAuthor(0, 0);
         d.addAuthor(0, 0);
@@ -1076,7 +746,7 @@ public final class PromiseTest {
         for (int bad : new int[] {-1, 3, LEAST, GREATEST}) fails(d, INDEX, x -> x.signers(bad));
     }
 
-    private static void promise27() {
+    static void promise27() {
         Doc d = new Doc();
         fails(d, INDEX, x -> x.sign(0, 0));
         d.addAuthor(0, 1);
@@ -1105,7 +775,7 @@ public final class PromiseTest {
         for (int i = 1; i < 12; i++) due(d.state(i), 'v');
     }
 
-    private static void promise28() {
+    static void promise28() {
         Doc d = withThreeClauses();
         fails(d, INDEX, x -> x.withdraw(0));
         d.sign(0, 1);
@@ -1125,7 +795,7 @@ public final class PromiseTest {
         due(d.signatures(), 4);
     }
 
-    private static void promise29And30() {
+    static void promise29And30() {
         Doc d = withThreeClauses();
         due(d.signatures(), 0);
         d.sign(0, 1);
@@ -1147,7 +817,7 @@ public final class PromiseTest {
     }
 
     /** Neither moving a whole clause nor swapping equal letters changes words. */
-    private static void promise30SameWords() {
+    static void promise30SameWords() {
         Doc d = with("aaabbcd");
         d.addClause(0, 3);
         d.addClause(3, 2);
@@ -1171,7 +841,7 @@ public final class PromiseTest {
         due(e.voidedBy(0), 2);
     }
 
-    private static void promise31() {
+    static void promise31() {
         Doc d = withThreeClauses();
         fails(d, INDEX, x -> x.isUntouched(0));
         d.sign(0, 1);
@@ -1201,7 +871,7 @@ public final class PromiseTest {
         due(d.isConsistent(), true);
     }
 
-    private static void promise32() {
+    static void promise32() {
         Doc d = withThreeClauses();
         fails(d, INDEX, x -> x.voidedBy(0));
         d.sign(0, 1);
@@ -1232,7 +902,7 @@ public final class PromiseTest {
         due(first.voidedBy(0), 1);
     }
 
-    private static void promise33() {
+    static void promise33() {
         Doc d = withThreeClauses();
         due(d.setStrict(false), false);
         due(d.setStrict(true), false);
@@ -1252,7 +922,7 @@ public final class PromiseTest {
         refused(d, 's', 2, x -> x.delete(0, 8, 1));
     }
 
-    private static void promise34() {
+    static void promise34() {
         Doc d = new Doc();
         for (int bad : new int[] {-1, 1000, LEAST, GREATEST}) fails(d, ARGUMENT, x -> x.setFee(bad));
         due(d.setFee(999), 0);
@@ -1262,7 +932,7 @@ public final class PromiseTest {
         due(d.setFee(6), 5);
     }
 
-    private static void promise35And36() {
+    static void promise35And36() {
         Doc d = new Doc();
         fails(d, INDEX, x -> x.bill(0));
         fails(d, INDEX, x -> x.billAgain(0));
@@ -1298,7 +968,7 @@ public final class PromiseTest {
         due(d.billAgain(2), 9);
     }
 
-    private static void promise37() {
+    static void promise37() {
         Doc d = new Doc();
         fails(d, INDEX, x -> x.share(0));
         d.addAuthor(0, 1);
@@ -1323,7 +993,7 @@ public final class PromiseTest {
         fails(d, INDEX, x -> x.share(-1));
     }
 
-    private static void promise38() {
+    static void promise38() {
         Doc d = new Doc();
         fails(d, ARITHMETIC, x -> x.meanCost());
         d.addAuthor(0, 1);
@@ -1346,7 +1016,7 @@ public final class PromiseTest {
         dueD(d.meanCost(), 25.0 / 6.0);
     }
 
-    private static void promise39() {
+    static void promise39() {
         Doc d = new Doc();
         due(d.isConsistent(), true);
         d.addAuthor(2, 3);
@@ -1371,7 +1041,7 @@ public final class PromiseTest {
     }
 
     /** A locked clause comes before a signature, and the lowest of several is the subject. */
-    private static void termsRefusals() {
+    static void termsRefusals() {
         Doc d = withThreeClauses();
         d.sign(0, 4);
         d.sign(0, 2);
@@ -1395,7 +1065,7 @@ public final class PromiseTest {
     }
 
     /** A full log is told before a refusal, and a refused edit takes no room in it. */
-    private static void termsFullLog() {
+    static void termsFullLog() {
         Doc d = withThreeClauses();
         d.lock(1, true);
         for (int i = 1; i < 40; i++) {
@@ -1413,7 +1083,7 @@ public final class PromiseTest {
     }
 
     /** As many authors, characters, clauses, signatures and edits as there may be. */
-    private static void termsFullDocument() {
+    static void termsFullDocument() {
         Doc d = new Doc();
         for (int i = 0; i < 5; i++) d.addAuthor(1, i + 1);
         for (int i = 0; i < 3; i++) put(d, i, 0, "a".repeat(20));
@@ -1449,17 +1119,7 @@ public final class PromiseTest {
         due(d.isConsistent(), true);
     }
 
-    public static void main(String[] args) throws ReflectiveOperationException {
-        Method[] methods = PromiseTest.class.getDeclaredMethods();
-        Arrays.sort(methods, Comparator.comparing(Method::getName));
-        int tests = 0;
-        for (Method each : methods) {
-            if (isTest(each.getName())) {
-                each.invoke(null);
-                tests++;
-            }
-        }
-        System.out.println(wrong == 0 ? tests + " tests, " + checks + " checks: all as due" : wrong + " faults");
-        if (wrong != 0) System.exit(1);
+    public static void main(String[] args) {
+        run(PromiseTest.class);
     }
 }
