@@ -954,10 +954,10 @@ public final class TermsTest extends Checks {
     static void aNewClauseIsNotLocked() {
         Doc d = withThreeClauses();
         due(d.delete(0, 0, 1), 10);
-        d.lock(1, true);
-        d.addClause(5, 1);
+        for (int i = 0; i < 3; i++) due(d.lock(i, true), false);
+        due(d.addClause(5, 1), 3);
+        due(d.delete(0, 5, 1), 9);
         due(d.lock(3, false), false);
-        due(d.lock(0, true), false);
     }
 
     @Sentence(of = TERMS, says = AT_FIRST)

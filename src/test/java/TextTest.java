@@ -258,9 +258,8 @@ public final class TextTest extends Checks {
         due(text(d), "[0:ab]");
     }
 
-    /** Six clauses nested in one another are eleven sequences, the most that can be made. */
     @Sentence(of = "Promise 19", says = BRACKETS)
-    static void theLongestLine() {
+    static void sixClausesNestedInAFullText() {
         Doc d = with("aa");
         d.addClause(0, 2);
         for (int i = 1; i < 6; i++) {
@@ -273,6 +272,24 @@ public final class TextTest extends Checks {
         due(d.length(), 60);
         due(text(d), "[0:a][1:b][2:c][3:d][4:e][5:f" + "z".repeat(8) + "y".repeat(20) + "x".repeat(20)
             + "f][4:e][3:d][2:c][1:b][0:a]");
+    }
+
+    /** The clause 1 goes through the clause 0 and leaves a character of no clause behind at each step. */
+    @Sentence(of = "Promise 19", says = BRACKETS)
+    static void aLineWithTwentySequences() {
+        Doc d = with("a".repeat(20));
+        put(d, 0, 20, "b".repeat(20));
+        put(d, 0, 40, "c".repeat(20));
+        d.addClause(0, 20);
+        d.addClause(20, 20);
+        d.move(0, 20, 20, 1);
+        d.move(0, 1, 1, 1);
+        for (int i = 1; i < 18; i++) {
+            d.move(0, 2 * i, 20 - i, 2 * i + 1);
+            d.move(0, 2 * i + 1, 1, 2 * i + 1);
+        }
+        due(text(d), "[0:a]b".repeat(18) + "[1:bb][0:aa]" + "c".repeat(20));
+        due(d.isConsistent(), true);
     }
 
     @Sentence(of = "Promise 19", says = "Returns the number of characters of the line.")
